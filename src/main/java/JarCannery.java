@@ -1248,6 +1248,7 @@ public final class JarCannery {
         private final Row kinds = new Row(MOST_COMMANDS);
         private final Row arguments = new Row(MOST_COMMANDS * MOST_ARGUMENTS);
         private int count = 0;
+        private int reading = 0;
         private int position = 0;
 
         int argument(int command, int index) {
@@ -1257,12 +1258,13 @@ public final class JarCannery {
         boolean read(Text text) {
             source.copyFrom(text);
             position = 0;
-            for (count = 0; count < MOST_COMMANDS; count++) {
+            for (int command = 0; command < MOST_COMMANDS; command++) {
+                reading = command;
+                count = command + 1;
                 if (!readCommand()) {
                     return false;
                 }
                 if (source.at(position) != ';') {
-                    count++;
                     return position == source.length;
                 }
                 position++;
@@ -1272,7 +1274,7 @@ public final class JarCannery {
 
         private boolean readCommand() {
             int kind = readKind();
-            kinds.set(count, kind);
+            kinds.set(reading, kind);
             switch (kind) {
                 case RAW:
                     return true;
@@ -1345,7 +1347,7 @@ public final class JarCannery {
                 return false;
             }
             if (isDigit(source.at(position))) {
-                keepArgument(index, argument(count, index) * 10 + source.at(position) - '0');
+                keepArgument(index, argument(reading, index) * 10 + source.at(position) - '0');
                 position++;
             }
             return true;
@@ -1369,7 +1371,7 @@ public final class JarCannery {
         }
 
         private void keepArgument(int index, int value) {
-            arguments.set(count * MOST_ARGUMENTS + index, value);
+            arguments.set(reading * MOST_ARGUMENTS + index, value);
         }
     }
 }

@@ -10,6 +10,7 @@ public final class AccountsTest {
         test.promise43MeanPressure();
         test.promise44ShippedShare();
         test.promise45WriteLot();
+        test.promise45LongNumbers();
         test.promise46WriteRaws();
         test.promise47LineAt();
         test.promise48IsConsistent();
@@ -99,6 +100,22 @@ public final class AccountsTest {
             check.refused("45 lot " + lot, NoSuchElementException.class, () -> x.writeLot(lot));
         }
         check.due("45 the line is left", "4:9xh/0", () -> Build.line(x, 7));
+    }
+
+    private void promise45LongNumbers() {
+        JarCannery x = Build.batches(1, 10);
+        for (int lot = 0; lot < 205; lot++) {
+            x.fill(0, 0, 0, 8);
+            String want = lot + ":8xabba/" + 0;
+            int number = lot;
+            check.due("45 writeLot " + lot, want.length(), () -> x.writeLot(number));
+            check.due("45 the line of " + lot, want, () -> Build.line(x, want.length()));
+            x.ship(lot);
+        }
+        x.fill(0, 0, 0, 8);
+        x.pass(1);
+        check.due("45 writeLot at 11", 13, () -> x.writeLot(205));
+        check.due("45 the line at 11", "205:8xabba/11", () -> Build.line(x, 13));
     }
 
     private void promise46WriteRaws() {

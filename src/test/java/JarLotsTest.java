@@ -11,6 +11,7 @@ public final class JarLotsTest {
         test.promise16Fill();
         test.promise16Order();
         test.promise17Ship();
+        test.promise17AllThatMovesUp();
         test.promise18Pass();
         test.promise18Edges();
         test.promise19Recall();
@@ -70,6 +71,28 @@ public final class JarLotsTest {
         }
         check.due("17 the others stay", "6 1 1 0 12 4 0 0 . . . . . . b20/100000 labba #0:3,0,20,0 #2:5,0,20,0",
                 () -> Build.sight(x));
+    }
+
+    private void promise17AllThatMovesUp() {
+        JarCannery x = Build.batches(1, 20, 2, 18, 4, 16);
+        Build.label(x, "h");
+        for (int lot = 0; lot < 8; lot++) {
+            x.fill(lot % 3, lot % 2, lot % 2, lot + 1);
+        }
+        x.pass(3);
+        x.ship(2);
+        x.ship(5);
+        check.due("17 the others move up", "6 3 2 3 36 9 0 0 . . . . . . b20/100000 b18/010000 b16/001000 labba lh"
+                + " #0:1,0,20,3 #1:2,1,18,9 #3:4,1,19,6 #4:5,0,19,6 #6:7,0,20,3 #7:8,1,18,9", () -> Build.sight(x));
+        int[] order = {1, 7, 3, 4, 0, 6};
+        for (int rank = 0; rank < order.length; rank++) {
+            int asked = rank;
+            check.due("29 rank " + rank, order[rank], () -> x.lotByPressure(asked));
+        }
+        check.due("16 the next number", 8, () -> x.fill(2, 2, 0, 1));
+        check.due("16 and one more", 9, () -> x.fill(2, 2, 0, 1));
+        check.due("25 the pressure of the first", 0, () -> x.pressureOf(8));
+        check.due("25 the pressure of the second", 0, () -> x.pressureOf(9));
     }
 
     private void promise18Pass() {

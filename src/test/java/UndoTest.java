@@ -12,6 +12,7 @@ public final class UndoTest {
         test.promise54NotModifications();
         test.promise54NextNumber();
         test.promise55And56Snapshot();
+        test.promise55And56Overwritten();
         test.promise56Undo();
         test.check.finish();
     }
@@ -130,6 +131,32 @@ public final class UndoTest {
         y.addRaw();
         check.due("56 restore of nothing", 0, y::restore);
         check.due("56 no raw lot", 0, y::rawCount);
+    }
+
+    /** What was saved stands against all that takes its places afterwards. */
+    private void promise55And56Overwritten() {
+        JarCannery x = Build.raws(3);
+        Build.label(x, "abba");
+        x.mix(3, 10);
+        x.fill(0, 0, 0, 5);
+        x.pass(1);
+        x.save();
+        String saved = Build.sight(x);
+        for (int step = 0; step < 4; step++) {
+            x.undo();
+        }
+        check.due("54 undone down to the raw lots", "3 0 0 0 0 0 0 0 . . .", () -> Build.sight(x));
+        check.due("54 the label's number again", 0, () -> Build.label(x, "ab"));
+        check.due("54 the batch's number again", 0, () -> x.mix(4, 20));
+        check.due("54 the lot's number again", 0, () -> x.fill(0, 0, 0, 9));
+        check.due("54 other things", "3 1 1 0 9 0 0 0 . . . b20/001 lab #0:9,0,20,0", () -> Build.sight(x));
+        x.recall(0);
+        x.restore();
+        check.due("56 all as saved", saved, () -> Build.sight(x));
+        check.refused("9 the restored label", IllegalStateException.class, () -> Build.label(x, "abba"));
+        check.due("9 one that is gone", 1, () -> Build.label(x, "ab"));
+        x.undo();
+        check.due("9 once more", 1, () -> Build.label(x, "ab"));
     }
 
     private void promise56Undo() {
