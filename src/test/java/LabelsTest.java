@@ -8,7 +8,9 @@ public final class LabelsTest {
         test.promise9Refusals();
         test.promise11And12Letters();
         test.promise13Scan();
+        test.promise13Nearest();
         test.promise14And15Distances();
+        test.promise15ByItself();
         test.promise14And15Order();
         test.check.finish();
     }
@@ -45,7 +47,11 @@ public final class LabelsTest {
         check.due("9 a longer one", 1, x::addLabel);
         Build.type(x, "ab");
         check.due("9 a shorter one", 2, x::addLabel);
-        check.due("10 labelCount", 3, x::labelCount);
+        Build.type(x, "abd");
+        check.due("9 one with another last letter", 3, x::addLabel);
+        Build.type(x, "dbc");
+        check.due("9 one with another first letter", 4, x::addLabel);
+        check.due("10 labelCount", 5, x::labelCount);
     }
 
     private void promise11And12Letters() {
@@ -91,6 +97,40 @@ public final class LabelsTest {
             Build.type(x, bad);
             check.refused("13 scan of " + bad, IllegalArgumentException.class, x::scan);
         }
+    }
+
+    private void scanned(String text, int want, String... labels) {
+        JarCannery x = new JarCannery();
+        for (String label : labels) {
+            Build.label(x, label);
+        }
+        Build.type(x, text);
+        check.due("13 scan of " + text, want, x::scan);
+    }
+
+    private void promise13Nearest() {
+        scanned("a", 0, "hhhhhh");
+        scanned("a", 0, "hhhhhh", "gggggg");
+        scanned("a", 1, "hhhhhh", "ggggg");
+        scanned("abc", 0, "abc", "abd", "ab");
+        scanned("abc", 2, "h", "hh", "abcc", "ab", "a");
+        scanned("hgh", 7, "a", "b", "c", "d", "e", "f", "ag", "gh");
+    }
+
+    /** Each of the two ways is asked first once, so that none lives on what the other left behind. */
+    private void promise15ByItself() {
+        JarCannery x = new JarCannery();
+        Build.label(x, "abc");
+        Build.label(x, "hh");
+        Build.type(x, "abch");
+        check.due("15 the first label", 1, () -> x.distanceByLetters(0));
+        check.due("15 the second label", 3, () -> x.distanceByLetters(1));
+        check.due("14 the first label", 1, () -> x.distanceTo(0));
+        check.due("15 the second label again", 3, () -> x.distanceByLetters(1));
+        x.clearText();
+        Build.type(x, "hh");
+        check.due("15 another text", 0, () -> x.distanceByLetters(1));
+        check.due("14 another text", 3, () -> x.distanceTo(0));
     }
 
     private void distances(String text, String label, int want) {
