@@ -65,6 +65,9 @@ public final class FindingsTest {
         crates(10, 2, 2, 6, 5, 5, 2);
         crates(14, 3, 2, 3, 7, 7, 5, 5, 6, 4);
         crates(10, 4, 6, 6, 6, 4, 4, 4, 5, 5);
+        crates(16, 3, 8, 4, 7, 8, 6, 9, 4);
+        crates(16, 2, 6, 3, 8, 8, 1, 4, 1);
+        crates(20, 2, 9, 9, 4, 8, 7, 2);
     }
 
     private void promise32And33Refusals() {

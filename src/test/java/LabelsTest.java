@@ -52,6 +52,11 @@ public final class LabelsTest {
         Build.type(x, "dbc");
         check.due("9 one with another first letter", 4, x::addLabel);
         check.due("10 labelCount", 5, x::labelCount);
+        Build.label(x, "abcdef");
+        Build.label(x, "gh");
+        Build.type(x, "abcdef");
+        check.refused("9 the same six letters, with a label behind them", IllegalStateException.class, x::addLabel);
+        check.due("10 labelCount after that", 7, x::labelCount);
     }
 
     private void promise11And12Letters() {
