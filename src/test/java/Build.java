@@ -1,3 +1,5 @@
+import java.util.function.Consumer;
+
 /** Canneries that the tests begin with. */
 final class Build {
     private Build() {
@@ -7,6 +9,29 @@ final class Build {
         for (int index = 0; index < text.length(); index++) {
             cannery.type(text.charAt(index));
         }
+    }
+
+    /** The same cannery, with the text typed. */
+    static JarCannery typed(JarCannery cannery, String text) {
+        type(cannery, text);
+        return cannery;
+    }
+
+    static JarCannery labels(String... labels) {
+        JarCannery cannery = new JarCannery();
+        for (String letters : labels) {
+            label(cannery, letters);
+        }
+        return cannery;
+    }
+
+    /** As many labels as asked for, of one letter each. */
+    static JarCannery labels(int count) {
+        JarCannery cannery = new JarCannery();
+        for (int label = 0; label < count; label++) {
+            label(cannery, String.valueOf((char) ('a' + label)));
+        }
+        return cannery;
     }
 
     static int label(JarCannery cannery, String letters) {
@@ -54,6 +79,12 @@ final class Build {
             line.append(cannery.lineAt(index));
         }
         return line.toString();
+    }
+
+    /** The same cannery, after the change. */
+    static JarCannery changed(JarCannery cannery, Consumer<JarCannery> change) {
+        change.accept(cannery);
+        return cannery;
     }
 
     /** The counts, the lots and the raw lots in one text, to tell whether a call changed anything. */

@@ -27,9 +27,18 @@ final class Check {
         due(what, "throws " + want.getSimpleName(), call);
     }
 
+    int asked() {
+        return asked;
+    }
+
+    /** A test that asks nothing does not hold, either. */
+    boolean holds() {
+        return wrong == 0 && asked > 0;
+    }
+
     void finish() {
         System.out.println(asked + " answers asked, " + wrong + " not as due");
-        if (wrong != 0 || asked == 0) {
+        if (!holds()) {
             System.exit(1);
         }
     }
