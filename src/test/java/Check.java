@@ -27,6 +27,13 @@ final class Check {
         due(what, "throws " + want.getSimpleName(), call);
     }
 
+    /** What went wrong before a question could be asked. */
+    void amiss(String what) {
+        asked++;
+        wrong++;
+        System.out.println(what);
+    }
+
     int asked() {
         return asked;
     }

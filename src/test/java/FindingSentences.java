@@ -26,6 +26,17 @@ final class FindingSentences {
         return x;
     }
 
+    /** Three batches with raw lot 0 and one without it, and lots of two batches each. */
+    private static JarCannery crossedLots() {
+        JarCannery x = Build.batches(1, 20, 3, 20, 5, 20, 2, 20);
+        x.fill(0, 2, 0, 1);
+        x.fill(2, 1, 0, 1);
+        x.fill(1, 0, 0, 1);
+        x.fill(3, 0, 0, 1);
+        x.fill(3, 3, 0, 1);
+        return x;
+    }
+
     private static void affected(Sentences s) {
         String none = "Throws `IndexOutOfBoundsException` if there is no such raw lot";
         s.promise(30, none)
@@ -43,6 +54,11 @@ final class FindingSentences {
             .answers(0, "affectedLots without lots", x -> x.affectedLots(0))
             .on(() -> Build.lots(1, 1, 1, 1, 1, 1, 1, 1)).answers(8, "affectedBySets, all of them", x -> x.affectedBySets(0))
             .answers(8, "affectedLots, all of them", x -> x.affectedLots(0));
+        same.on(FindingSentences::crossedLots)
+            .answers(4, "affectedBySets of lots of several such batches", x -> x.affectedBySets(0))
+            .answers(4, "affectedLots of lots of several such batches", x -> x.affectedLots(0))
+            .answers(2, "affectedBySets of one batch", x -> x.affectedBySets(2))
+            .answers(2, "affectedLots of one batch", x -> x.affectedLots(2));
         int[] wanted = {2, 2, 1, 0, 0, 1};
         for (int raw = 0; raw < wanted.length; raw++) {
             int chosen = raw;
@@ -61,7 +77,9 @@ final class FindingSentences {
         int[][] cases = {{9, 0}, {40, 0}, {9, 1, 9}, {9, 1, 1}, {9, 1, 5, 4}, {9, 2, 5, 5}, {9, 8, 9, 9, 9, 9, 9, 9, 9, 9},
             {40, 2, 9, 9, 9, 9, 9, 9, 9, 9}, {40, 1, 5, 5, 5, 5, 5, 5, 5, 5}, {40, 2, 6, 5, 5, 5, 5, 5, 5, 5},
             {9, 1, 1, 1, 1, 1, 1, 1, 1, 1}, {9, 4, 4, 5, 4, 5, 4, 5, 4, 5}, {10, 2, 2, 6, 5, 5, 2},
-            {12, 3, 6, 3, 3, 4, 4, 4, 5, 7}, {14, 3, 2, 3, 7, 7, 5, 5, 6, 4}, {20, 2, 9, 9, 4, 8, 7, 2}};
+            {12, 3, 6, 3, 3, 4, 4, 4, 5, 7}, {14, 3, 2, 3, 7, 7, 5, 5, 6, 4}, {20, 2, 9, 9, 4, 8, 7, 2},
+            {16, 3, 8, 4, 7, 8, 6, 9, 4}, {16, 2, 6, 3, 8, 8, 1, 4, 1}, {10, 4, 6, 6, 6, 4, 4, 4, 5, 5},
+            {16, 2, 5, 7, 5, 7, 6}, {11, 2, 3, 6, 4, 4, 4}, {18, 2, 6, 9, 6, 9, 6}};
         for (int[] one : cases) {
             int[] jars = Arrays.copyOfRange(one, 2, one.length);
             String told = " of " + Arrays.toString(jars) + ", capacity " + one[0];

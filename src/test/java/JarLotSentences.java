@@ -37,6 +37,21 @@ final class JarLotSentences {
         return x;
     }
 
+    /** Three lots with nothing in common. */
+    static JarCannery unlikeLots() {
+        JarCannery x = Build.labels("a", "b", "c");
+        for (int lot = 0; lot < 3; lot++) {
+            x.addRaw();
+        }
+        x.mix(1, 20);
+        x.mix(2, 10);
+        x.mix(4, 1);
+        for (int lot = 0; lot < 3; lot++) {
+            x.fill(lot, lot, lot, lot + 1);
+        }
+        return x;
+    }
+
     private static JarCannery eightLots() {
         return Build.lots(1, 2, 3, 4, 5, 6, 7, 8);
     }
@@ -106,6 +121,19 @@ final class JarLotSentences {
 
     private static void ship(Sentences s) {
         s.promise(17, "Ships a jar lot, which is not stored any more.")
+            .on(JarLotSentences::unlikeLots)
+            .answers("3 3 3 0 6 0 0 0 . . . b20/100 b10/010 b1/001 la lb lc #0:1,0,20,0 #1:2,1,10,0 #2:3,2,1,0", "three lots",
+                Build::sight)
+            .on(() -> Build.changed(unlikeLots(), x -> x.ship(0)))
+            .answers("3 3 3 0 6 1 0 0 . . . b20/100 b10/010 b1/001 la lb lc #1:2,1,10,0 #2:3,2,1,0", "the first is shipped",
+                Build::sight)
+            .on(() -> Build.changed(unlikeLots(), x -> x.ship(1)))
+            .answers("3 3 3 0 6 2 0 0 . . . b20/100 b10/010 b1/001 la lb lc #0:1,0,20,0 #2:3,2,1,0", "the second is shipped",
+                Build::sight)
+            .answers(true, "what the third contains", x -> x.lotContains(2, 2))
+            .on(() -> Build.changed(eightLots(), x -> x.ship(0)))
+            .answers("6 1 1 0 36 1 0 0 . . . . . . b20/100000 labba #1:2,0,20,0 #2:3,0,20,0 #3:4,0,20,0 #4:5,0,20,0"
+                + " #5:6,0,20,0 #6:7,0,20,0 #7:8,0,20,0", "the first of eight is shipped", Build::sight)
             .on(() -> Build.lots(3, 4, 5))
             .steps((x, check) -> {
                 check.due("ship from the middle", 4, () -> x.ship(1));
@@ -240,14 +268,39 @@ final class JarLotSentences {
     }
 
     private static void ranks(Sentences s) {
-        s.promise(29, "Returns a stored jar lot in the order of pressure, the greatest first; lots with the same pressure"
-                + " are ordered by their numbers.")
+        Sentence order = s.promise(29, "Returns a stored jar lot in the order of pressure, the greatest first;"
+                + " lots with the same pressure are ordered by their numbers.")
             .on(JarLotSentences::equalPressures)
             .answers(1, "rank 0", x -> x.lotByPressure(0))
             .answers(3, "rank 1", x -> x.lotByPressure(1))
             .answers(2, "rank 2", x -> x.lotByPressure(2))
             .answers(4, "rank 3", x -> x.lotByPressure(3))
             .answers(5, "rank 4", x -> x.lotByPressure(4));
+        order.on(() -> Build.lots(1)).steps((x, check) -> {
+            for (int lot = 1; lot < 8; lot++) {
+                x.pass(1);
+                x.fill(0, 0, 0, 1);
+            }
+            x.ship(3);
+            x.fill(0, 0, 0, 1);
+            int[] lots = {0, 1, 2, 4, 5, 6, 7, 8};
+            for (int rank = 0; rank < lots.length; rank++) {
+                int asked = rank;
+                check.due("rank " + rank + " of lots a day apart", lots[rank], () -> x.lotByPressure(asked));
+            }
+        });
+        order.on(() -> Build.changed(Build.batches(1, 20, 2, 1), x -> {
+            for (int lot = 0; lot < 8; lot++) {
+                x.fill(lot / 7, lot / 7, 0, 1);
+            }
+            x.pass(2);
+        }))
+            .answers(7, "rank 0 of eight, the last", x -> x.lotByPressure(0))
+            .steps((x, check) -> {
+                x.ship(7);
+                check.due("rank 0 when it is shipped", 0, () -> x.lotByPressure(0));
+                check.due("rank 6 when it is shipped", 6, () -> x.lotByPressure(6));
+            });
         s.promise(29, "`rank`: the rank, from 0")
             .on(() -> Build.lots(5)).answers(0, "rank 0 of one", x -> x.lotByPressure(0))
             .on(JarLotSentences::eightLots).answers(0, "rank 0 of eight", x -> x.lotByPressure(0))

@@ -57,11 +57,11 @@ final class LabelSentences {
             .on(() -> Build.typed(Build.changed(Build.labels(8), JarCannery::undo), "h"))
             .answers(7, "addLabel of an undone one", JarCannery::addLabel);
         for (String text : new String[] {"abc", "hh", "abcdef"}) {
-            states.on(() -> Build.typed(Build.labels("abc", "hh", "abcdef"), text))
+            states.on(() -> Build.typed(Build.labels("abc", "abcdef", "hh"), text))
                 .refuses("addLabel of the same, " + text, JarCannery::addLabel);
         }
         for (String text : new String[] {"ab", "abcd", "abcdeg", "hbcdef", "hhh", "h", "cba"}) {
-            states.on(() -> Build.typed(Build.labels("abc", "hh", "abcdef"), text))
+            states.on(() -> Build.typed(Build.labels("abc", "abcdef", "hh"), text))
                 .answers(3, "addLabel of another, " + text, JarCannery::addLabel);
         }
     }
@@ -132,7 +132,8 @@ final class LabelSentences {
                 "Returns the same as distanceTo, by going on from letter to letter and remembering what was found.");
         String[][] pairs = {{"a", "a", "0"}, {"a", "h", "1"}, {"abcdefghabcd", "h", "11"}, {"aaaaaaaaaaaa", "b", "12"},
             {"aaaaaaaaaaaa", "bbbbbb", "12"}, {"aaaaaaaaaaaa", "aaaaaa", "6"}, {"h", "abcdef", "6"}, {"ab", "ba", "2"},
-            {"abcdef", "bcdefa", "2"}, {"bcdef", "abcdef", "1"}, {"abcdef", "abcdef", "0"}, {"abc", "adc", "1"}};
+            {"abcdef", "bcdefa", "2"}, {"bcdef", "abcdef", "1"}, {"abcdef", "abcdef", "0"}, {"abc", "adc", "1"},
+            {"aaaaaaaaaaah", "h", "11"}, {"haaaaaaaaaaa", "h", "11"}, {"aaaaaabcdefg", "bcdefg", "6"}};
         for (String[] pair : pairs) {
             distance(byTable, pair, x -> x.distanceTo(1));
             distance(byLetters, pair, x -> x.distanceByLetters(1));

@@ -34,9 +34,7 @@ final class Sentence {
     }
 
     Sentence answers(Object want, String told, Call call) {
-        JarCannery cannery = maker.get();
-        check.due(section + ": " + told, want, () -> call.on(cannery));
-        return this;
+        return steps((cannery, asked) -> asked.due(section + ": " + told, want, () -> call.on(cannery)));
     }
 
     /** The call throws what the sentence names. */
@@ -52,9 +50,13 @@ final class Sentence {
         return this;
     }
 
-    /** Several questions to one cannery. */
+    /** Several questions to one cannery. What is thrown on the way to them is an answer that is not due. */
     Sentence steps(BiConsumer<JarCannery, Check> questions) {
-        questions.accept(maker.get(), check);
+        try {
+            questions.accept(maker.get(), check);
+        } catch (RuntimeException e) {
+            check.amiss(section + ": between the questions, " + e);
+        }
         return this;
     }
 

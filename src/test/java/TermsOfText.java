@@ -297,7 +297,7 @@ final class TermsOfText {
             all.append(character);
             character = Check.answer(() -> x.lineAt(next));
         }
-        return all.append(' ').append(Check.answer(x::scan)).toString();
+        return all.toString();
     }
 
     private static String undone(JarCannery x) {
@@ -308,10 +308,11 @@ final class TermsOfText {
         return sights.append(' ').append(Check.answer(x::restore)).append(Build.sight(x)).toString();
     }
 
-    /** The letters of the buffer as a label, or the place where it is no command. */
+    /** The length of the buffer, and its letters as a label, or the place where it is no command. */
     private static String buffer(JarCannery x, boolean asLabel) {
+        String length = Check.answer(() -> x.type('a'));
         String answer = Check.answer(asLabel ? x::addLabel : x::execute);
-        return answer + ' ' + Build.sight(x) + (asLabel ? "" : ' ' + Check.answer(x::errorPosition)
+        return length + ' ' + answer + ' ' + Build.sight(x) + (asLabel ? "" : ' ' + Check.answer(x::errorPosition)
                 + ' ' + Check.answer(x::failedCommand));
     }
 
@@ -321,19 +322,23 @@ final class TermsOfText {
                 + " except that execute and addLabel empty the text buffer.");
         for (Sentence.Refused refused : s.allRefused()) {
             for (boolean asLabel : new boolean[] {true, false}) {
-                JarCannery called = refused.maker().get();
-                JarCannery left = refused.maker().get();
-                Check.answer(() -> refused.call().on(called));
-                boolean execute = refused.told().startsWith("execute");
-                if (execute || refused.told().startsWith("addLabel")) {
-                    left.clearText();
-                }
-                same.check.due("all after " + refused.told(), all(left), () -> all(called));
-                if (!execute) {
-                    same.check.due("the buffer after " + refused.told(), buffer(left, asLabel), () -> buffer(called, asLabel));
-                }
-                same.check.due("undo after " + refused.told(), undone(left), () -> undone(called));
+                same.on(refused.maker()).steps((called, check) -> compare(check, called, refused, asLabel));
             }
         }
+    }
+
+    private static void compare(Check check, JarCannery called, Sentence.Refused refused, boolean asLabel) {
+        JarCannery left = refused.maker().get();
+        Check.answer(() -> refused.call().on(called));
+        boolean execute = refused.told().startsWith("execute");
+        if (execute || refused.told().startsWith("addLabel")) {
+            left.clearText();
+        }
+        check.due("all after " + refused.told(), all(left), () -> all(called));
+        // A refused execute leaves its error position or its failed command, which are told with the buffer.
+        if (!execute) {
+            check.due("the buffer after " + refused.told(), buffer(left, asLabel), () -> buffer(called, asLabel));
+        }
+        check.due("undo after " + refused.told(), undone(left), () -> undone(called));
     }
 }

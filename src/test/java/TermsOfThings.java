@@ -61,6 +61,10 @@ final class TermsOfThings {
                     x.recall(raw);
                     check.due("isFaulty after the recall", true, () -> x.isFaulty(chosen));
                 }
+                for (int raw = 0; raw < 6; raw++) {
+                    int chosen = raw;
+                    check.due("isFaulty after the other recalls", true, () -> x.isFaulty(chosen));
+                }
             })
             .on(() -> Build.changed(Build.raws(1), x -> {
                 x.recall(0);
@@ -157,7 +161,18 @@ final class TermsOfThings {
             .answers(12, "stored", JarCannery::stored)
             .answers(1, "shipped", JarCannery::shipped)
             .answers(5, "recalled", JarCannery::recalled)
-            .answers(3, "spoiled", JarCannery::spoiled);
+            .answers(3, "spoiled", JarCannery::spoiled)
+            .on(() -> Build.changed(JarLotSentences.lotsWithGaps(), x -> {
+                x.ship(3);
+                x.recall(0);
+                x.fill(1, 1, 0, 8);
+                x.pass(3);
+            }))
+            .answers(29, "filled, later", JarCannery::filled)
+            .answers(0, "stored, later", JarCannery::stored)
+            .answers(5, "shipped, later", JarCannery::shipped)
+            .answers(13, "recalled, later", JarCannery::recalled)
+            .answers(11, "spoiled, later", JarCannery::spoiled);
         s.terms("At most 8 jar lots are stored.")
             .on(() -> Build.lots(1, 1, 1, 1, 1, 1, 1)).steps((x, check) -> {
                 check.due("the eighth", 7, () -> x.fill(0, 0, 0, 9));
@@ -207,8 +222,14 @@ final class TermsOfThings {
                 x.fill(0, 0, 1, 1);
                 check.due("the jars", 1, () -> x.jarsOf(1));
                 check.due("the label", 1, () -> x.labelOf(1));
-                check.due("the pressure at first, in a place that another lot had", 0, () -> x.pressureOf(1));
+                check.due("the pressure at first", 0, () -> x.pressureOf(1));
             })
+            .on(() -> Build.changed(Build.lots(1, 2, 3, 4, 5, 6, 7, 8), x -> {
+                x.pass(5);
+                x.ship(7);
+                x.fill(0, 0, 0, 9);
+            })).answers(0, "the pressure at first, in a place that another lot had", x -> x.pressureOf(8))
+            .on(() -> Build.lots(9))
             .answers(0, "the pressure of the first lot", x -> x.pressureOf(0));
         s.terms("Its strength is the mean of the strengths of its batches, rounded down.")
             .on(() -> Build.changed(Build.batches(1, 1, 1, 2, 1, 19, 1, 20), x -> {
@@ -271,6 +292,16 @@ final class TermsOfThings {
             check.due("all of eight", 8, () -> x.pass(1));
             check.due("spoiled", 36, x::spoiled);
             check.due("stored", 0, x::stored);
+        });
+        pop.on(() -> Build.changed(Build.batches(1, 20, 1, 1, 1, 11), x -> {
+            x.fill(2, 2, 0, 4);
+            x.fill(1, 1, 0, 2);
+            x.fill(0, 0, 0, 1);
+            x.fill(1, 2, 0, 3);
+        })).steps((x, check) -> {
+            check.due("one after the other, in one call", 3, () -> x.pass(30));
+            check.due("the weakest stays", "2", () -> lotsOf(x));
+            check.due("spoiled", 9, x::spoiled);
         });
         pop.on(() -> Build.changed(Build.batches(1, 20, 1, 1), x -> {
             x.fill(1, 1, 0, 1);
@@ -372,7 +403,8 @@ final class TermsOfThings {
             .on(() -> lotsOf(32)).answers("000001 11", "one lot", TermsOfThings::bestTests)
             .on(() -> lotsOf(1, 2)).answers("110000 22", "two lots", TermsOfThings::bestTests)
             .on(() -> lotsOf(1, 2, 4, 8, 16, 32)).answers("111111 66", "all raw lots", TermsOfThings::bestTests)
-            .on(() -> Build.changed(lotsOf(1, 2), x -> x.ship(0))).answers("010000 11", "one is shipped", TermsOfThings::bestTests)
+            .on(() -> Build.changed(lotsOf(1, 2), x -> x.ship(0)))
+            .answers("010000 11", "one is shipped", TermsOfThings::bestTests)
             .on(() -> Build.changed(lotsOf(1, 2, 3), x -> x.recall(0)))
             .answers("010000 11", "two are recalled", TermsOfThings::bestTests);
         s.terms("The best test set is the one with the fewest raw lots; of several, it is the one with the smallest sum"
@@ -390,7 +422,8 @@ final class TermsOfThings {
             .answers(0, "leastCratesByTrial of a new object", x -> x.leastCratesByTrial(9))
             .on(() -> Build.batches(63, 1)).answers("000000 00", "no lot yet", TermsOfThings::bestTests)
             .answers("......", "writeRaws before a lot", x -> Build.line(x, x.writeRaws()))
-            .on(() -> Build.changed(Build.lots(9), x -> x.ship(0))).answers("000000 00", "no lot any more", TermsOfThings::bestTests)
+            .on(() -> Build.changed(Build.lots(9), x -> x.ship(0)))
+            .answers("000000 00", "no lot any more", TermsOfThings::bestTests)
             .answers(0, "leastCrates of 40", x -> x.leastCrates(40))
             .answers(0, "leastCratesByTrial of 40", x -> x.leastCratesByTrial(40));
     }

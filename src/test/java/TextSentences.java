@@ -50,7 +50,8 @@ final class TextSentences {
 
     private static void execute(Sentences s) {
         Sentence emptied = s.promise(51, "Executes the text in the buffer, which is empty afterwards.");
-        for (String text : new String[] {"raw", "day;day", FULL, "", "x", "raw;", FULL_BUT_FOR_ONE + ";", "ship 0", "raw;ship 0"}) {
+        String[] texts = {"raw", "day;day", FULL, "", "x", "raw;", FULL_BUT_FOR_ONE + ";", "ship 0", "raw;ship 0"};
+        for (String text : texts) {
             emptied.on(() -> Build.typed(new JarCannery(), text)).steps((x, check) -> {
                 Check.answer(x::execute);
                 check.due("the buffer after " + text, 0, x::clearText);
@@ -81,8 +82,8 @@ final class TextSentences {
                 String sight = Build.sight(x);
                 check.refused(text, IllegalStateException.class, () -> Build.execute(x, text));
                 check.due("taken back, " + text, sight, () -> Build.sight(x));
-                check.due("what can be undone after " + text, 7, x::undo);
                 check.due("the next number after " + text, 2, () -> x.fill(0, 0, 0, 1));
+                check.due("what can be undone after " + text, 7, x::undo);
             });
         }
         all.on(() -> Build.changed(new JarCannery(), x -> {
@@ -122,7 +123,8 @@ final class TextSentences {
     private static void executeRefusals(Sentences s) {
         Sentence malformed = s.promise(51, "Throws `IllegalArgumentException` if the text is malformed;"
                 + " its error position is stored");
-        String[] texts = {"", "x", "raw;", ";raw", "raw;;raw", "RAW", "day 123", "recall 12", "mix 1", FULL_BUT_FOR_ONE + ";", "ship 0;x"};
+        String[] texts = {"", "x", "raw;", ";raw", "raw;;raw", "RAW", "day 123", "recall 12", "mix 1",
+            FULL_BUT_FOR_ONE + ";", "ship 0;x"};
         int[] positions = {0, 0, 4, 0, 4, 0, 6, 8, 5, 60, 7};
         for (int index = 0; index < texts.length; index++) {
             String text = texts[index];
@@ -135,8 +137,9 @@ final class TextSentences {
                 });
         }
         Sentence failing = s.promise(51, "Throws `IllegalStateException` if a command fails; its index is stored");
-        String[] failingTexts = {"ship 1", "day;ship 1;day", "day;day;day 0", "day 31;day 31"};
-        int[] indexes = {0, 1, 2, 0};
+        String[] failingTexts = {"ship 1", "day;ship 1;day", "day;day;day 0", "day 31;day 31", "fill 0 0 0 1;ship 9",
+            "day;recall 0;raw;day 0"};
+        int[] indexes = {0, 1, 2, 0, 1, 3};
         for (int index = 0; index < failingTexts.length; index++) {
             String text = failingTexts[index];
             int failed = indexes[index];

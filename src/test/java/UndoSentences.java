@@ -13,7 +13,7 @@ final class UndoSentences {
     }
 
     private static void undo(Sentences s) {
-        s.promise(54, "Undoes the last modification that can be undone.")
+        Sentence last = s.promise(54, "Undoes the last modification that can be undone.")
             .steps((x, check) -> {
                 // Far more modifications than can be undone, so that what is kept of them comes around more than once.
                 List<String> sights = new ArrayList<>();
@@ -22,9 +22,9 @@ final class UndoSentences {
                     x.pass(1 + step % 30);
                 }
                 for (int step = 28; step > 20; step--) {
-                    int last = step;
+                    int undone = step;
                     x.undo();
-                    check.due("back to step " + step, sights.get(last), () -> Build.sight(x));
+                    check.due("back to step " + step, sights.get(undone), () -> Build.sight(x));
                 }
                 x.addRaw();
                 x.pass(3);
@@ -33,6 +33,18 @@ final class UndoSentences {
                 x.undo();
                 check.due("and the one before it", sights.get(21), () -> Build.sight(x));
             });
+        last.on(JarLotSentences::unlikeLots).steps((x, check) -> {
+            List<String> sights = new ArrayList<>();
+            for (int step = 0; step < 6; step++) {
+                sights.add(Build.sight(x));
+                change(x, step);
+            }
+            for (int step = 5; step >= 0; step--) {
+                int undone = step;
+                x.undo();
+                check.due("change " + step + " is undone", sights.get(undone), () -> Build.sight(x));
+            }
+        });
         s.promise(54, "Returns the number of modifications that can still be undone.")
             .on(() -> Build.raws(1)).answers(0, "undo of the only one", JarCannery::undo)
             .on(() -> Build.raws(2)).answers(1, "undo of two", JarCannery::undo)
@@ -57,6 +69,17 @@ final class UndoSentences {
                     x.undo();
                 }
             })).refuses("undo of a ninth", JarCannery::undo);
+    }
+
+    private static void change(JarCannery x, int step) {
+        switch (step) {
+            case 0 -> x.ship(0);
+            case 1 -> x.mix(6, 15);
+            case 2 -> x.fill(3, 3, 2, 9);
+            case 3 -> Build.execute(x, "ship 2;raw;mix 8 3;fill 4 3 0 8");
+            case 4 -> x.recall(1);
+            default -> x.pass(2);
+        }
     }
 
     private static JarCannery days8() {
@@ -84,7 +107,7 @@ final class UndoSentences {
     }
 
     private static void restore(Sentences s) {
-        s.promise(56, "Restores the snapshot, which is kept.")
+        Sentence kept = s.promise(56, "Restores the snapshot, which is kept.")
             .on(() -> Build.lots(1, 2)).steps((x, check) -> {
                 x.save();
                 String sight = Build.sight(x);
@@ -98,6 +121,27 @@ final class UndoSentences {
                     check.due("the next number", 2, () -> x.fill(0, 0, 0, 1));
                 }
             });
+        kept.on(JarLotSentences::unlikeLots).steps((x, check) -> {
+            x.save();
+            String saved = Build.sight(x);
+            for (int step = 0; step < 8; step++) {
+                x.undo();
+            }
+            check.due("undone down to a label", "1 0 3 0 0 0 0 0 . la lb lc", () -> Build.sight(x));
+            x.recall(0);
+            x.addRaw();
+            x.mix(2, 7);
+            x.fill(0, 0, 2, 9);
+            x.restore();
+            check.due("all as saved", saved, () -> Build.sight(x));
+        });
+        kept.on(() -> Build.labels("abc", "hh")).steps((x, check) -> {
+            x.save();
+            x.undo();
+            check.due("another label with that number", 1, () -> Build.label(x, "defgh"));
+            x.restore();
+            check.due("the labels as saved", "0 0 2 0 0 0 0 0 labc lhh", () -> Build.sight(x));
+        });
         s.promise(56, "Afterwards nothing can be undone.")
             .on(() -> Build.changed(days8(), x -> {
                 x.save();
