@@ -182,6 +182,18 @@ final class AccountSentences {
             .answers(want, "isConsistent with " + told, JarCannery::isConsistent);
     }
 
+    private static void uneven(Sentence sentence, String told, int first, int... others) {
+        sentence.on(() -> Build.changed(Build.lots(9), x -> {
+            int sum = first;
+            for (int jars : others) {
+                x.fill(0, 0, 0, jars);
+                sum += jars;
+            }
+            Inside.put(x, "state.lots.jars", first);
+            Inside.put(x, "state.filledJars", sum);
+        })).answers(false, "isConsistent with uneven " + told, JarCannery::isConsistent);
+    }
+
     /** No run of calls makes an inconsistent cannery, so these are made from inside, each with one thing amiss. */
     private static void inconsistent(Sentence holds) {
         spoilt(holds, false, "a filled jar more", x -> Inside.put(x, "state.filledJars", 6));
@@ -199,6 +211,9 @@ final class AccountSentences {
             Inside.put(x, "state.lots.jars", 15);
             Inside.put(x, "state.filledJars", 15);
         });
+        // With such a first lot the two ways of counting crates agree for the capacities beside 9, or beside 20.
+        uneven(holds, "crates of 9 alone", -17, 3, 8, 9, 8, 9, 7);
+        uneven(holds, "crates of 20 alone", -25, 3, 5, 5, 8, 8, 8, 8);
         spoilt(holds, false, "a lot of no raw lots", x -> {
             Inside.put(x, "state.brine.sources", 0);
             Inside.put(x, "state.brine.raws", 1);
